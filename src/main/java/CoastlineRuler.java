@@ -274,7 +274,6 @@ public final class CoastlineRuler {
 
     public boolean encloses(int island, int coast)
             throws IndexOutOfBoundsException, IllegalStateException {
-        coastAt(island);
         Coast inner = coastAt(coast);
         Coast outer = islandAt(island);
         return island != coast && outer.coversAll(inner);

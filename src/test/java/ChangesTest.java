@@ -122,12 +122,12 @@ public final class ChangesTest {
     }
 
     private static void unfold() {
-        CoastlineRuler r = Check.with("map king;shore 0 0,1 0,2 0,3 0;island 0 0,1 0,2 0,3 0,4 0,5 0;"
+        CoastlineRuler r = Check.with("map king;shore 0 0,1 0,2 5,3 0;island 0 0,1 0,2 0,3 0,4 9,5 0;"
                 + "shore 0 0,1 1,2 2;island 0 0,1 1,2 2,3 3;island 0 0,1 1,2 2,3 3,4 4;");
         Check.same("a shore of 4", r.unfold(0), 2);
-        Check.same("it", Check.points(r, 0), "shore 0 0,2 0");
+        Check.same("it", Check.points(r, 0), "shore 0 0,2 5");
         Check.same("an island of 6", r.unfold(1), 3);
-        Check.same("it", Check.points(r, 1), "island 0 0,2 0,4 0");
+        Check.same("it", Check.points(r, 1), "island 0 0,2 0,4 9");
         Check.same("a shore of 3", r.unfold(2), 2);
         Check.refuses("a shore of 2", r, Check.STATE, () -> r.unfold(2));
         Check.refuses("an island of 4", r, Check.STATE, () -> r.unfold(3));
@@ -214,6 +214,9 @@ public final class ChangesTest {
         Check.same("the widest shift", far.shift(0, 2000, -2000), 2);
         Check.same("it", Check.points(far, 0), "shore 1000 -1000,1000 -1000");
         Check.same("back", far.shift(0, -2000, 2000), 2);
+        Check.grow(far, 0, 129);
+        Check.same("a full shore", far.shift(0, 500, -500), 129);
+        Check.same("its last point", far.pointX(0, 128), 628);
     }
 
     private static void reverse() {
@@ -254,7 +257,10 @@ public final class ChangesTest {
         Check.same("a change too", r.undoableCount(), 1);
         Check.same("the buffer", r.appendText(0, 0, 0, 0, 0), 20);
         Check.same("an empty script", r.runScript(0), 0);
+        Check.same("metric taxicab", Check.run(r, "metric taxicab;\n"), 1);
+        Check.same("it", r.usesKingMetric(), false);
         Check.same("metric king", Check.run(r, "metric king;\n"), 1);
+        Check.same("it", r.usesKingMetric(), true);
         Check.same("negative numbers", Check.run(r, "shift 0-10-10;move 0 1 -5 - 6;fold 0 -50;"), 3);
         Check.same("it", Check.points(r, 0), "shore -10 -10,-8 -58,-5 -6");
     }
@@ -303,6 +309,7 @@ public final class ChangesTest {
     private static void scriptErrors() {
         scriptError(";", "1 at 0");
         scriptError("bend 0;", "1 at 0");
+        scriptError("bold 0 1;", "1 at 0");
         scriptError("reverse 0", "1 at 9");
         scriptError("reverse 0  ", "1 at 11");
         scriptError("reverse 0;reverse 0,", "1 at 19");

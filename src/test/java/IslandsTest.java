@@ -89,6 +89,7 @@ public final class IslandsTest {
         Check.same("each other", twins.encloses(0, 1) && twins.encloses(1, 0), true);
         Check.same("depth", twins.ringDepth(0) + twins.ringDepth(1), 2);
         Check.same("each around the other", twins.innermostIslandAround(0), 1);
+        Check.same("each around the other", twins.innermostIslandAround(1), 0);
     }
 
     private static void innermost() {

@@ -85,6 +85,9 @@ public final class MapTest {
         Check.same("the second", Check.points(six, 1), "island -1000 -1000,1000 1000,0 0");
         Check.same("the rest of the buffer is not read",
                 six.loadMap(Check.feed(six, "map king;shore 9 9,9 9;x") - 1), 1);
+        Check.same("half a number", six.loadMap(Check.feed(six, "map king;shore 0 0,1 1001") - 1),
+                -1);
+        Check.same("its error", Check.error(six), "1 at 24");
     }
 
     private static void mapError(String map, String due) {
@@ -99,6 +102,8 @@ public final class MapTest {
         mapError(" \n ", "1 at 3");
         mapError("chart king;", "1 at 0");
         mapError("maps king;", "1 at 0");
+        mapError("nap king;", "1 at 0");
+        mapError("map king;shote 0 0,1 1;", "1 at 9");
         mapError("Map king;", "1 at 0");
         mapError("map queen;", "1 at 4");
         mapError("map king", "1 at 8");
@@ -131,6 +136,7 @@ public final class MapTest {
         mapError(full + ",7 0;", "3 at " + (end + 1));
         mapError(full + ", -7 0;", "3 at " + (end + 2));
         mapError(full + ",-1001 0;", "3 at " + (end + 1));
+        mapError(full + ",1000 0;", "3 at " + (end + 1));
         mapError(full + ",1001 0;", "2 at " + (end + 1));
         mapError(full + ",;", "1 at " + (end + 1));
         mapError(full + ",", "1 at " + (end + 1));

@@ -138,6 +138,11 @@ public final class SticksTest {
         late.movePoint(0, 32, 1000, 0);
         Check.same("equal gains", late.lengthGain(0, 5), 1000);
         Check.same("the smallest level", late.levelOfGreatestGain(0), 5);
+        for (int i = 0; i < 128; i++) {
+            late.movePoint(0, i, 0, 0);
+        }
+        late.movePoint(0, 128, 9, 9);
+        Check.same("level 7 has no gain", late.levelOfGreatestGain(0), 0);
         for (int level : new int[] {-1, 7, 8, Integer.MAX_VALUE}) {
             Check.refuses("lengthGain", r, Check.ARGUMENT, () -> r.lengthGain(0, level));
             Check.refuses("lengthGain", r, Check.INDEX, () -> r.lengthGain(9, level));
