@@ -21,31 +21,31 @@ public final class ChangesTest {
     }
 
     private static void addCoast() {
-        CoastlineRuler r = new CoastlineRuler();
+        Ruler r = new Ruler();
         Check.same("a shore", Check.add(r, "shore 1 2,-3 -4"), 3);
         Check.same("it", Check.points(r, 3), "shore 1 2,-3 -4");
         Check.same("an island", Check.add(r, " " + Check.row("island", 33) + "\n"), 4);
         Check.same("its points", r.pointCount(4), 33);
         Check.same("the buffer after it", r.appendText(0, 0, 0, 0, 0), 20);
-        Check.refuses("length -1", r, Check.ARGUMENT, () -> r.addCoast(-1));
-        Check.refuses("length 21", r, Check.ARGUMENT, () -> r.addCoast(21));
+        Check.refuses("length -1", r, Check.ARGUMENT, x -> x.addCoast(-1));
+        Check.refuses("length 21", r, Check.ARGUMENT, x -> x.addCoast(21));
         Check.same("the buffer after them", r.appendText(0, 0, 0, 0, 0), 40);
         Check.same("a wrong coast", r.addCoast(40), -1);
         Check.same("the sixth", Check.add(r, "shore 5 5,5 5"), 5);
         Check.same("the changes", r.undoableCount(), 3);
         Check.feed(r, "shore 6 6,6 6");
-        Check.refuses("a seventh", r, Check.STATE, () -> r.addCoast(13));
-        Check.refuses("a wrong seventh", r, Check.STATE, () -> r.addCoast(1));
-        Check.refuses("length 21", r, Check.ARGUMENT, () -> r.addCoast(21));
+        Check.refuses("a seventh", r, Check.STATE, x -> x.addCoast(13));
+        Check.refuses("a wrong seventh", r, Check.STATE, x -> x.addCoast(1));
+        Check.refuses("length 21", r, Check.ARGUMENT, x -> x.addCoast(21));
         r.removeCoast(0);
         Check.same("the buffer is as before", r.addCoast(13), 5);
         Check.same("it", Check.points(r, 5), "shore 6 6,6 6");
-        CoastlineRuler none = Check.with("map king;");
+        Ruler none = Check.with("map king;");
         Check.same("the first", Check.add(none, "shore 6 6,6 6"), 0);
     }
 
     private static void addError(String coast, String due) {
-        CoastlineRuler r = new CoastlineRuler();
+        Ruler r = new Ruler();
         r.reverse(0);
         String before = Check.map(r) + Check.ledgers(r);
         Check.same("addCoast of " + coast, Check.add(r, coast), -1);
@@ -66,19 +66,20 @@ public final class ChangesTest {
         addError("fold 0 1", "1 at 0");
         addError("shore 0 0,1 1001", "2 at 12");
         addError("shore 0 0,-1001 1", "2 at 11");
-        addError(Check.row("island", 33) + ",0 0", "3 at " + (Check.row("island", 33).length() + 1));
+        String full = Check.row("island", 33);
+        addError(full + ",0 0", "3 at " + (full.length() + 1));
     }
 
     private static void removeCoast() {
-        CoastlineRuler r = new CoastlineRuler();
+        Ruler r = new Ruler();
         Check.same("removeCoast", r.removeCoast(1), 4);
         Check.same("the rest", Check.map(r),
                 "map taxicab;shore 0 0,4 3,8 0,12 5,20 5;island 35 5,45 5,40 15;");
-        Check.refuses("coast 2", r, Check.INDEX, () -> r.removeCoast(2));
-        Check.refuses("coast -1", r, Check.INDEX, () -> r.removeCoast(-1));
+        Check.refuses("coast 2", r, Check.INDEX, x -> x.removeCoast(2));
+        Check.refuses("coast -1", r, Check.INDEX, x -> x.removeCoast(-1));
         Check.same("the last", r.removeCoast(1), 3);
         Check.same("the only one", r.removeCoast(0), 5);
-        Check.refuses("of none", r, Check.INDEX, () -> r.removeCoast(0));
+        Check.refuses("of none", r, Check.INDEX, x -> x.removeCoast(0));
         r.undo();
         r.undo();
         Check.same("brought back", Check.map(r),
@@ -86,7 +87,7 @@ public final class ChangesTest {
     }
 
     private static void fold() {
-        CoastlineRuler r = Check.with("map king;shore 0 0,4 0,4 6,-1 6;island 0 0,3 3,-3 -4;"
+        Ruler r = Check.with("map king;shore 0 0,4 0,4 6,-1 6;island 0 0,3 3,-3 -4;"
                 + "shore -1 -1,-2 -4;");
         Check.same("fold of a shore", r.fold(0, 2), 7);
         Check.same("it", Check.points(r, 0), "shore 0 0,2 2,4 0,2 3,4 6,1 8,-1 6");
@@ -94,53 +95,55 @@ public final class ChangesTest {
         Check.same("it", Check.points(r, 1), "island 0 0,1 11,3 3,-10 -1,-3 -4,8 -2");
         Check.same("rounded down", r.fold(2, -3), 3);
         Check.same("it", Check.points(r, 2), "shore -1 -1,-5 -3,-2 -4");
-        Check.refuses("height 51", r, Check.ARGUMENT, () -> r.fold(0, 51));
-        Check.refuses("height -51", r, Check.ARGUMENT, () -> r.fold(0, -51));
-        Check.refuses("coast 3", r, Check.INDEX, () -> r.fold(3, 51));
-        Check.refuses("coast -1", r, Check.INDEX, () -> r.fold(-1, 0));
+        Check.refuses("height 51", r, Check.ARGUMENT, x -> x.fold(0, 51));
+        Check.refuses("height -51", r, Check.ARGUMENT, x -> x.fold(0, -51));
+        Check.refuses("coast 3", r, Check.INDEX, x -> x.fold(3, 51));
+        Check.refuses("coast -1", r, Check.INDEX, x -> x.fold(-1, 0));
     }
 
     private static void foldAtTheLimits() {
-        CoastlineRuler r = Check.with("map king;shore 0 0,1 0;island 0 0,1 0,2 0;"
-                + "shore 0 960,8 960;shore -960 0,-960 8;");
-        Check.grow(r, 0, 66);
-        Check.grow(r, 1, 65);
-        Check.refuses("a shore of 66", r, Check.STATE, () -> r.fold(0, 0));
-        Check.refuses("an island of 65", r, Check.STATE, () -> r.fold(1, 0));
-        r.removePoint(0, 0);
-        r.removePoint(1, 0);
-        Check.same("a shore of 65", r.fold(0, 50), 129);
-        Check.same("an island of 64", r.fold(1, -50), 128);
-        Check.refuses("a full shore", r, Check.STATE, () -> r.fold(0, 0));
-        Check.refuses("a full shore", r, Check.ARGUMENT, () -> r.fold(0, 51));
-        Check.refuses("above 1000", r, Check.STATE, () -> r.fold(2, 41));
-        Check.same("up to 1000", r.fold(2, 40), 3);
-        Check.same("it", Check.points(r, 2), "shore 0 960,4 1000,8 960");
-        Check.refuses("beyond -1000", r, Check.STATE, () -> r.fold(3, -41));
-        Check.same("up to -1000", r.fold(3, -40), 3);
-        Check.same("it", Check.points(r, 3), "shore -960 0,-1000 4,-960 8");
+        Ruler shore = Check.with("map king;shore 0 0,1 0;");
+        Check.grow(shore, 0, 66);
+        Check.refuses("a shore of 66", shore, Check.STATE, x -> x.fold(0, 0));
+        shore.removePoint(0, 0);
+        Check.same("a shore of 65", shore.fold(0, 50), 129);
+        Check.refuses("a full shore", shore, Check.STATE, x -> x.fold(0, 0));
+        Check.refuses("a full shore", shore, Check.ARGUMENT, x -> x.fold(0, 51));
+        Ruler island = Check.with("map king;island 0 0,1 0,2 0;");
+        Check.grow(island, 0, 65);
+        Check.refuses("an island of 65", island, Check.STATE, x -> x.fold(0, 0));
+        island.removePoint(0, 0);
+        Check.same("an island of 64", island.fold(0, -50), 128);
+        Check.refuses("an island of 128", island, Check.STATE, x -> x.fold(0, 0));
+        Ruler r = Check.with("map king;shore 0 960,8 960;shore -960 0,-960 8;");
+        Check.refuses("above 1000", r, Check.STATE, x -> x.fold(0, 41));
+        Check.same("up to 1000", r.fold(0, 40), 3);
+        Check.same("it", Check.points(r, 0), "shore 0 960,4 1000,8 960");
+        Check.refuses("beyond -1000", r, Check.STATE, x -> x.fold(1, -41));
+        Check.same("up to -1000", r.fold(1, -40), 3);
+        Check.same("it", Check.points(r, 1), "shore -960 0,-1000 4,-960 8");
     }
 
     private static void unfold() {
-        CoastlineRuler r = Check.with("map king;shore 0 0,1 0,2 5,3 0;island 0 0,1 0,2 0,3 0,4 9,5 0;"
+        Ruler r = Check.with("map king;shore 0 0,1 0,2 5,3 0;island 0 0,1 0,2 0,3 0,4 9,5 0;"
                 + "shore 0 0,1 1,2 2;island 0 0,1 1,2 2,3 3;island 0 0,1 1,2 2,3 3,4 4;");
         Check.same("a shore of 4", r.unfold(0), 2);
         Check.same("it", Check.points(r, 0), "shore 0 0,2 5");
         Check.same("an island of 6", r.unfold(1), 3);
         Check.same("it", Check.points(r, 1), "island 0 0,2 0,4 9");
         Check.same("a shore of 3", r.unfold(2), 2);
-        Check.refuses("a shore of 2", r, Check.STATE, () -> r.unfold(2));
-        Check.refuses("an island of 4", r, Check.STATE, () -> r.unfold(3));
+        Check.refuses("a shore of 2", r, Check.STATE, x -> x.unfold(2));
+        Check.refuses("an island of 4", r, Check.STATE, x -> x.unfold(3));
         Check.same("an island of 5", r.unfold(4), 3);
-        Check.refuses("an island of 3", r, Check.STATE, () -> r.unfold(4));
-        Check.refuses("coast 5", r, Check.INDEX, () -> r.unfold(5));
+        Check.refuses("an island of 3", r, Check.STATE, x -> x.unfold(4));
+        Check.refuses("coast 5", r, Check.INDEX, x -> x.unfold(5));
         Check.grow(r, 0, 129);
         Check.same("a full shore", r.unfold(0), 65);
         Check.same("its last point", r.pointX(0, 64), 128);
     }
 
     private static void movePoint() {
-        CoastlineRuler r = new CoastlineRuler();
+        Ruler r = new Ruler();
         Check.same("taxicab", r.movePoint(0, 1, 14, 0), 13);
         Check.same("it", Check.points(r, 0), "shore 0 0,14 0,8 0,12 5,20 5");
         Check.same("to its own place", r.movePoint(0, 1, 14, 0), 0);
@@ -148,69 +151,70 @@ public final class ChangesTest {
         Check.same("king", r.movePoint(2, 2, -1000, 1000), 1040);
         Check.same("king", r.movePoint(2, 2, 1000, -1000), 2000);
         Check.same("it", Check.points(r, 2), "island 35 5,45 5,1000 -1000");
-        Check.refuses("coast 3", r, Check.INDEX, () -> r.movePoint(3, 0, 1001, 0));
-        Check.refuses("point 5", r, Check.INDEX, () -> r.movePoint(0, 5, 1001, 0));
-        Check.refuses("point -1", r, Check.INDEX, () -> r.movePoint(0, -1, 0, 0));
-        Check.refuses("x 1001", r, Check.ARGUMENT, () -> r.movePoint(0, 0, 1001, 0));
-        Check.refuses("x -1001", r, Check.ARGUMENT, () -> r.movePoint(0, 0, -1001, 0));
-        Check.refuses("y 1001", r, Check.ARGUMENT, () -> r.movePoint(0, 0, 0, 1001));
-        Check.refuses("y -2^31", r, Check.ARGUMENT,
-                () -> r.movePoint(0, 0, 0, Integer.MIN_VALUE));
+        Check.refuses("coast 3", r, Check.INDEX, x -> x.movePoint(3, 0, 1001, 0));
+        Check.refuses("point 5", r, Check.INDEX, x -> x.movePoint(0, 5, 1001, 0));
+        Check.refuses("point -1", r, Check.INDEX, x -> x.movePoint(0, -1, 0, 0));
+        Check.refuses("x 1001", r, Check.ARGUMENT, x -> x.movePoint(0, 0, 1001, 0));
+        Check.refuses("x -1001", r, Check.ARGUMENT, x -> x.movePoint(0, 0, -1001, 0));
+        Check.refuses("y 1001", r, Check.ARGUMENT, x -> x.movePoint(0, 0, 0, 1001));
+        Check.refuses("y -2^31", r, Check.ARGUMENT, x -> x.movePoint(0, 0, 0, Integer.MIN_VALUE));
     }
 
     private static void insertPoint() {
-        CoastlineRuler r = Check.with("map king;shore 0 0,1 0;island 0 0,1 0,2 0;");
+        Ruler r = Check.with("map king;shore 0 0,1 0;island 0 0,1 0,2 0;");
         Check.same("at the front", r.insertPoint(0, 0, -1000, 1000), 3);
         Check.same("between", r.insertPoint(0, 1, 7, 8), 4);
         Check.same("at the end", r.insertPoint(0, 4, 1000, -1000), 5);
         Check.same("it", Check.points(r, 0), "shore -1000 1000,7 8,0 0,1 0,1000 -1000");
-        Check.refuses("coast 2", r, Check.INDEX, () -> r.insertPoint(2, 0, 1001, 0));
-        Check.refuses("point 6", r, Check.INDEX, () -> r.insertPoint(0, 6, 1001, 0));
-        Check.refuses("point -1", r, Check.INDEX, () -> r.insertPoint(0, -1, 0, 0));
-        Check.refuses("x 1001", r, Check.ARGUMENT, () -> r.insertPoint(0, 0, 1001, 0));
-        Check.refuses("y -1001", r, Check.ARGUMENT, () -> r.insertPoint(0, 0, 0, -1001));
+        Check.refuses("coast 2", r, Check.INDEX, x -> x.insertPoint(2, 0, 1001, 0));
+        Check.refuses("point 6", r, Check.INDEX, x -> x.insertPoint(0, 6, 1001, 0));
+        Check.refuses("point -1", r, Check.INDEX, x -> x.insertPoint(0, -1, 0, 0));
+        Check.refuses("x 1001", r, Check.ARGUMENT, x -> x.insertPoint(0, 0, 1001, 0));
+        Check.refuses("y -1001", r, Check.ARGUMENT, x -> x.insertPoint(0, 0, 0, -1001));
         Check.grow(r, 0, 128);
         Check.same("the 129th", r.insertPoint(0, 0, 5, 5), 129);
-        Check.refuses("the 130th", r, Check.STATE, () -> r.insertPoint(0, 129, 0, 0));
-        Check.refuses("the 130th", r, Check.STATE, () -> r.insertPoint(0, 0, 0, 0));
-        Check.refuses("the 130th", r, Check.ARGUMENT, () -> r.insertPoint(0, 0, 0, 1001));
-        Check.refuses("the 130th", r, Check.INDEX, () -> r.insertPoint(0, 130, 0, 1001));
+        Check.refuses("the 130th", r, Check.STATE, x -> x.insertPoint(0, 129, 0, 0));
+        Check.refuses("the 130th", r, Check.STATE, x -> x.insertPoint(0, 0, 0, 0));
+        Check.refuses("the 130th", r, Check.ARGUMENT, x -> x.insertPoint(0, 0, 0, 1001));
+        Check.refuses("the 130th", r, Check.INDEX, x -> x.insertPoint(0, 130, 0, 1001));
     }
 
     private static void removePoint() {
-        CoastlineRuler r = Check.with("map king;shore 0 0,1 0,2 0,3 0,4 0;island 0 0,1 0,2 0,3 0;");
+        Ruler r = Check.with("map king;shore 0 0,1 0,2 0,3 0,4 0;island 0 0,1 0,2 0,3 0;");
         Check.same("the first", r.removePoint(0, 0), 4);
         Check.same("an inner one", r.removePoint(0, 1), 3);
         Check.same("the last", r.removePoint(0, 2), 2);
         Check.same("it", Check.points(r, 0), "shore 1 0,3 0");
-        Check.refuses("of a shore of 2", r, Check.STATE, () -> r.removePoint(0, 1));
-        Check.refuses("point 2", r, Check.INDEX, () -> r.removePoint(0, 2));
-        Check.refuses("point -1", r, Check.INDEX, () -> r.removePoint(0, -1));
-        Check.refuses("coast 2", r, Check.INDEX, () -> r.removePoint(2, 0));
+        Check.refuses("of a shore of 2", r, Check.STATE, x -> x.removePoint(0, 1));
+        Check.refuses("point 2", r, Check.INDEX, x -> x.removePoint(0, 2));
+        Check.refuses("point -1", r, Check.INDEX, x -> x.removePoint(0, -1));
+        Check.refuses("coast 2", r, Check.INDEX, x -> x.removePoint(2, 0));
         Check.same("of an island of 4", r.removePoint(1, 3), 3);
-        Check.refuses("of an island of 3", r, Check.STATE, () -> r.removePoint(1, 0));
+        Check.refuses("of an island of 3", r, Check.STATE, x -> x.removePoint(1, 0));
         Check.grow(r, 0, 129);
         Check.same("of a full shore", r.removePoint(0, 128), 128);
         Check.same("of a full shore", r.removePoint(0, 0), 127);
     }
 
     private static void shift() {
-        CoastlineRuler r = new CoastlineRuler();
+        Ruler r = new Ruler();
         Check.same("shift", r.shift(0, 980, -1000), 5);
-        Check.same("it", Check.points(r, 0), "shore 980 -1000,984 -997,988 -1000,992 -995,1000 -995");
-        Check.refuses("x above", r, Check.STATE, () -> r.shift(0, 1, 0));
-        Check.refuses("y below", r, Check.STATE, () -> r.shift(0, 0, -1));
+        Check.same("it", Check.points(r, 0),
+                "shore 980 -1000,984 -997,988 -1000,992 -995,1000 -995");
+        Check.refuses("x above", r, Check.STATE, x -> x.shift(0, 1, 0));
+        Check.refuses("y below", r, Check.STATE, x -> x.shift(0, 0, -1));
         Check.same("back", r.shift(0, -1980, 1995), 5);
-        Check.same("it", Check.points(r, 0), "shore -1000 995,-996 998,-992 995,-988 1000,-980 1000");
-        Check.refuses("x below", r, Check.STATE, () -> r.shift(0, -1, 0));
-        Check.refuses("y above", r, Check.STATE, () -> r.shift(0, 0, 1));
-        Check.refuses("dx 2001", r, Check.ARGUMENT, () -> r.shift(0, 2001, 0));
-        Check.refuses("dx -2001", r, Check.ARGUMENT, () -> r.shift(0, -2001, 0));
-        Check.refuses("dy 2001", r, Check.ARGUMENT, () -> r.shift(0, 0, 2001));
-        Check.refuses("dy -2001", r, Check.ARGUMENT, () -> r.shift(0, 0, -2001));
-        Check.refuses("dx 2000", r, Check.STATE, () -> r.shift(0, 2000, 0));
-        Check.refuses("coast 3", r, Check.INDEX, () -> r.shift(3, 2001, 0));
-        CoastlineRuler far = Check.with("map king;shore -1000 1000,-1000 1000;");
+        Check.same("it", Check.points(r, 0),
+                "shore -1000 995,-996 998,-992 995,-988 1000,-980 1000");
+        Check.refuses("x below", r, Check.STATE, x -> x.shift(0, -1, 0));
+        Check.refuses("y above", r, Check.STATE, x -> x.shift(0, 0, 1));
+        Check.refuses("dx 2001", r, Check.ARGUMENT, x -> x.shift(0, 2001, 0));
+        Check.refuses("dx -2001", r, Check.ARGUMENT, x -> x.shift(0, -2001, 0));
+        Check.refuses("dy 2001", r, Check.ARGUMENT, x -> x.shift(0, 0, 2001));
+        Check.refuses("dy -2001", r, Check.ARGUMENT, x -> x.shift(0, 0, -2001));
+        Check.refuses("dx 2000", r, Check.STATE, x -> x.shift(0, 2000, 0));
+        Check.refuses("coast 3", r, Check.INDEX, x -> x.shift(3, 2001, 0));
+        Ruler far = Check.with("map king;shore -1000 1000,-1000 1000;");
         Check.same("the widest shift", far.shift(0, 2000, -2000), 2);
         Check.same("it", Check.points(far, 0), "shore 1000 -1000,1000 -1000");
         Check.same("back", far.shift(0, -2000, 2000), 2);
@@ -220,17 +224,17 @@ public final class ChangesTest {
     }
 
     private static void reverse() {
-        CoastlineRuler r = new CoastlineRuler();
+        Ruler r = new Ruler();
         Check.same("an odd shore", r.reverse(0), 5);
         Check.same("it", Check.points(r, 0), "shore 20 5,12 5,8 0,4 3,0 0");
         Check.same("an even island", r.reverse(1), 4);
         Check.same("it", Check.points(r, 1), "island 30 20,50 20,50 0,30 0");
-        Check.refuses("coast 3", r, Check.INDEX, () -> r.reverse(3));
-        Check.refuses("coast -1", r, Check.INDEX, () -> r.reverse(-1));
+        Check.refuses("coast 3", r, Check.INDEX, x -> x.reverse(3));
+        Check.refuses("coast -1", r, Check.INDEX, x -> x.reverse(-1));
     }
 
     private static void setKingMetric() {
-        CoastlineRuler r = new CoastlineRuler();
+        Ruler r = new Ruler();
         Check.same("was taxicab", r.setKingMetric(false), false);
         Check.same("was taxicab", r.setKingMetric(true), false);
         Check.same("is king", r.usesKingMetric(), true);
@@ -241,17 +245,18 @@ public final class ChangesTest {
     }
 
     private static void scripts() {
-        CoastlineRuler r = Check.with("map king;shore 0 0,4 0;");
+        Ruler r = Check.with("map king;shore 0 0,4 0;");
         Check.same("all commands", Check.run(r, "fold 0 2;move 0 0 -1 -2;insert 0 3 9 9;"
                 + "island 1 1,2 2,3 3,4 4,5 5;unfold 1;drop 0 1;shift 0 -10 10;reverse 0;"
                 + "metric taxicab;shore 7 7,8 8;remove 1;"), 11);
-        Check.same("what they did", Check.map(r), "map taxicab;shore -1 19,-6 10,-11 8;shore 7 7,8 8;");
+        Check.same("what they did", Check.map(r),
+                "map taxicab;shore -1 19,-6 10,-11 8;shore 7 7,8 8;");
         Check.same("one change", r.undoableCount(), 1);
         Check.same("undo", r.undo(), 0);
         Check.same("all undone", Check.map(r), "map king;shore 0 0,4 0;");
         Check.same("the buffer", r.appendText(0, 0, 0, 0, 0), 20);
-        Check.refuses("length 21", r, Check.ARGUMENT, () -> r.runScript(21));
-        Check.refuses("length -1", r, Check.ARGUMENT, () -> r.runScript(-1));
+        Check.refuses("length 21", r, Check.ARGUMENT, x -> x.runScript(21));
+        Check.refuses("length -1", r, Check.ARGUMENT, x -> x.runScript(-1));
         Check.same("the buffer", r.appendText(0, 0, 0, 0, 0), 40);
         Check.same("an empty script", r.runScript(0), 0);
         Check.same("a change too", r.undoableCount(), 1);
@@ -261,12 +266,13 @@ public final class ChangesTest {
         Check.same("it", r.usesKingMetric(), false);
         Check.same("metric king", Check.run(r, "metric king;\n"), 1);
         Check.same("it", r.usesKingMetric(), true);
-        Check.same("negative numbers", Check.run(r, "shift 0-10-10;move 0 1 -5 - 6;fold 0 -50;"), 3);
+        Check.same("negative numbers",
+                Check.run(r, "shift 0-10-10;move 0 1 -5 - 6;fold 0 -50;"), 3);
         Check.same("it", Check.points(r, 0), "shore -10 -10,-8 -58,-5 -6");
     }
 
     private static void stops(String script, int due) {
-        CoastlineRuler r = new CoastlineRuler();
+        Ruler r = new Ruler();
         String before = Check.map(r);
         Check.same("runScript of " + script, Check.run(r, script), due);
         Check.same("no error in " + script, Check.error(r), "0 at -1");
@@ -297,7 +303,7 @@ public final class ChangesTest {
     }
 
     private static void scriptError(String script, String due) {
-        CoastlineRuler r = new CoastlineRuler();
+        Ruler r = new Ruler();
         String before = Check.map(r) + Check.ledgers(r);
         Check.same("runScript of " + script, Check.run(r, script), -1);
         Check.same("the error of " + script, Check.error(r), due);
@@ -339,16 +345,17 @@ public final class ChangesTest {
         scriptError("metric king king;", "1 at 12");
         scriptError("shore 0 0;", "1 at 9");
         scriptError("island 0 0,1 1;", "1 at 14");
-        scriptError(Check.row("shore", 33) + ",-1 0;", "3 at " + (Check.row("shore", 33).length() + 1));
+        String full = Check.row("shore", 33);
+        scriptError(full + ",-1 0;", "3 at " + (full.length() + 1));
         scriptError("reverse 0;#", "1 at 10");
-        CoastlineRuler r = new CoastlineRuler();
+        Ruler r = new Ruler();
         Check.same("the limits are in range", Check.run(r, "reverse 5;fold 5 50;fold 5 -50;"
                 + "move 5 128 1000 -1000;insert 0 128 0 0;shift 0 2000 -2000;"), 0);
     }
 
     private static void longScripts() {
         String twenty = "reverse 0;".repeat(20);
-        CoastlineRuler r = new CoastlineRuler();
+        Ruler r = new Ruler();
         Check.same("20 commands", Check.run(r, twenty + "\n"), 20);
         scriptError(twenty + " reverse", "3 at 201");
         scriptError(twenty + "shore", "3 at 200");

@@ -12,29 +12,29 @@ public final class HistoryTest {
         Check.finish();
     }
 
-    private static void written(CoastlineRuler r, int coast, String due) {
+    private static void written(Ruler r, int coast, String due) {
         Check.same("writeLengths", r.writeLengths(coast), due.length());
         Check.same("the output", Check.output(r), due);
     }
 
     private static void writeLengths() {
-        CoastlineRuler r = new CoastlineRuler();
+        Ruler r = new Ruler();
         written(r, 0, "31 25 25");
         written(r, 1, "80 80");
         written(r, 2, "40 30");
         r.setKingMetric(true);
         written(r, 2, "30 20");
-        CoastlineRuler small = Check.with("map king;shore 0 0,0 0;shore 0 0,3 3,0 0;"
+        Ruler small = Check.with("map king;shore 0 0,0 0;shore 0 0,3 3,0 0;"
                 + "island 0 0,4 0,4 4,0 4,-4 0;");
         written(small, 0, "0");
         written(small, 1, "6 0");
         written(small, 2, "20 16 8");
-        Check.refuses("coast 3", small, Check.INDEX, () -> small.writeLengths(3));
-        Check.refuses("coast -1", small, Check.INDEX, () -> small.writeLengths(-1));
+        Check.refuses("coast 3", small, Check.INDEX, x -> x.writeLengths(3));
+        Check.refuses("coast -1", small, Check.INDEX, x -> x.writeLengths(-1));
     }
 
     private static void longOutputs() {
-        CoastlineRuler r = Check.with("map king;" + Check.row("shore", 2) + ";"
+        Ruler r = Check.with("map king;" + Check.row("shore", 2) + ";"
                 + Check.row("island", 3) + ";");
         Check.grow(r, 0, 129);
         Check.grow(r, 1, 128);
@@ -46,23 +46,23 @@ public final class HistoryTest {
         written(r, 0, "127 127 127 127 127 127 127 127");
         r.unfold(0);
         written(r, 0, "126 126 126 126 126 126 126");
-        for (int i = 0; i < 129; i++) {
-            r.movePoint(1, i, i % 2 == 0 ? -1000 : 1000, i % 2 == 0 ? 1000 : -1000);
+        Ruler far = Check.with("map taxicab;island -1000 1000,1000 -1000,-1000 1000;");
+        for (int i = 3; i < 129; i++) {
+            far.insertPoint(0, i, i % 2 == 0 ? -1000 : 1000, i % 2 == 0 ? 1000 : -1000);
         }
-        r.setKingMetric(false);
-        written(r, 1, "512000 0 0 0 0 0 0 0");
+        written(far, 0, "512000 0 0 0 0 0 0 0");
     }
 
     private static void outputByte() {
-        CoastlineRuler r = new CoastlineRuler();
-        Check.refuses("of an empty output", r, Check.INDEX, () -> r.outputByte(0));
+        Ruler r = new Ruler();
+        Check.refuses("of an empty output", r, Check.INDEX, x -> x.outputByte(0));
         r.writeLengths(2);
         Check.same("a digit", r.outputByte(0), 52);
         Check.same("a space", r.outputByte(2), 32);
         Check.same("the last", r.outputByte(4), 48);
-        Check.refuses("byte 5", r, Check.INDEX, () -> r.outputByte(5));
-        Check.refuses("byte -1", r, Check.INDEX, () -> r.outputByte(-1));
-        Check.refuses("a great index", r, Check.INDEX, () -> r.outputByte(Integer.MAX_VALUE));
+        Check.refuses("byte 5", r, Check.INDEX, x -> x.outputByte(5));
+        Check.refuses("byte -1", r, Check.INDEX, x -> x.outputByte(-1));
+        Check.refuses("a great index", r, Check.INDEX, x -> x.outputByte(Integer.MAX_VALUE));
         r.saveSnapshot();
         r.removeCoast(2);
         r.undo();
@@ -70,11 +70,11 @@ public final class HistoryTest {
         Check.run(r, "reverse 0;");
         Check.load(r, "map king;");
         Check.same("the output stays", Check.output(r), "40 30");
-        Check.refuses("writeLengths of none", r, Check.INDEX, () -> r.writeLengths(0));
+        Check.refuses("writeLengths of none", r, Check.INDEX, x -> x.writeLengths(0));
     }
 
     private static void undoSteps() {
-        CoastlineRuler r = new CoastlineRuler();
+        Ruler r = new Ruler();
         for (int i = 1; i <= 20; i++) {
             r.movePoint(0, 0, i, i);
             Check.same("undoableCount", r.undoableCount(), Math.min(i, 8));
@@ -84,7 +84,7 @@ public final class HistoryTest {
             Check.same("the point", r.pointX(0, 0), 12 + i);
             Check.same("undoableCount", r.undoableCount(), i);
         }
-        Check.refuses("undo", r, Check.STATE, r::undo);
+        Check.refuses("undo", r, Check.STATE, x -> x.undo());
         r.movePoint(0, 0, 99, 99);
         r.movePoint(0, 0, 98, 98);
         Check.same("undo", r.undo(), 1);
@@ -93,37 +93,33 @@ public final class HistoryTest {
         Check.same("the point", r.pointX(0, 0), 99);
         Check.same("undo", r.undo(), 0);
         Check.same("the point", r.pointX(0, 0), 12);
-        Check.refuses("undo", r, Check.STATE, r::undo);
+        Check.refuses("undo", r, Check.STATE, x -> x.undo());
     }
 
     private static void undoEachChange() {
-        CoastlineRuler r = new CoastlineRuler();
         Check.Call[] changes = {
-            () -> Check.add(r, "shore 9 9,8 8"), () -> r.fold(0, 4), () -> r.unfold(0),
-            () -> r.movePoint(0, 0, 5, 5), () -> r.insertPoint(1, 0, 5, 5),
-            () -> r.removePoint(0, 1), () -> r.shift(0, 1, 2), () -> r.reverse(1),
-            () -> r.removeCoast(0), () -> r.setKingMetric(true),
-            () -> Check.run(r, "remove 0;fold 0 1;metric king;")};
+            x -> Check.add(x, "shore 9 9,8 8"), x -> x.fold(0, 4), x -> x.unfold(0),
+            x -> x.movePoint(0, 0, 5, 5), x -> x.insertPoint(1, 0, 5, 5),
+            x -> x.removePoint(0, 1), x -> x.shift(0, 1, 2), x -> x.reverse(1),
+            x -> x.removeCoast(0), x -> x.setKingMetric(true),
+            x -> Check.run(x, "remove 0;fold 0 1;metric king;")};
         for (int i = 0; i < changes.length; i++) {
+            Ruler r = new Ruler();
+            r.insertPoint(0, 2, 5, 6);
+            r.removePoint(1, 0);
+            r.insertPoint(1, 0, 7, 8);
             String before = Check.map(r) + Check.ledgers(r);
-            int undoable = r.undoableCount();
-            changes[i].run();
+            changes[i].on(r);
             Check.same("change " + i + " changes", before.equals(Check.map(r) + Check.ledgers(r)),
                     false);
-            Check.same("change " + i + " counts", r.undoableCount(), Math.min(8, undoable + 1));
-            r.undo();
+            Check.same("change " + i + " counts", r.undoableCount(), 4);
+            Check.same("undo of change " + i, r.undo(), 3);
             Check.same("change " + i + " undone", Check.map(r) + Check.ledgers(r), before);
-            r.shift(0, 0, 1);
-            r.reverse(0);
         }
-        for (int i = 8; i < changes.length + 8; i++) {
-            r.reverse(0);
-        }
-        Check.same("undoable", r.undoableCount(), 8);
     }
 
     private static void whatIsNoChange() {
-        CoastlineRuler r = new CoastlineRuler();
+        Ruler r = new Ruler();
         r.setKingMetric(false);
         Check.same("the same metric is a change", r.undoableCount(), 1);
         r.movePoint(0, 0, 0, 0);
@@ -141,7 +137,7 @@ public final class HistoryTest {
     }
 
     private static void undoLeavesTheRest() {
-        CoastlineRuler r = new CoastlineRuler();
+        Ruler r = new Ruler();
         r.reverse(0);
         r.saveSnapshot();
         r.writeLengths(0);
@@ -160,7 +156,7 @@ public final class HistoryTest {
     }
 
     private static void snapshots() {
-        CoastlineRuler r = new CoastlineRuler();
+        Ruler r = new Ruler();
         r.fold(0, 1);
         r.setKingMetric(true);
         String saved = Check.map(r) + Check.ledgers(r);
@@ -172,7 +168,7 @@ public final class HistoryTest {
         r.removeCoast(1);
         Check.same("restored", r.restoreSnapshot(), 3);
         Check.same("it", Check.map(r) + Check.ledgers(r), saved);
-        Check.refuses("undo after it", r, Check.STATE, r::undo);
+        Check.refuses("undo after it", r, Check.STATE, x -> x.undo());
         r.reverse(0);
         Check.same("changes after it", r.undoableCount(), 1);
         r.undo();
@@ -187,7 +183,7 @@ public final class HistoryTest {
         Check.same("a map that is not read", Check.load(r, "map"), -1);
         Check.same("keeps the snapshot", r.restoreSnapshot(), 2);
         Check.load(r, "map king;");
-        Check.refuses("discarded", r, Check.STATE, r::restoreSnapshot);
+        Check.refuses("discarded", r, Check.STATE, x -> x.restoreSnapshot());
         r.saveSnapshot();
         Check.add(r, "shore 0 0,0 0");
         Check.same("a snapshot without coastlines", r.restoreSnapshot(), 0);

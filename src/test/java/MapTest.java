@@ -18,20 +18,20 @@ public final class MapTest {
     }
 
     private static void newObject() {
-        CoastlineRuler r = new CoastlineRuler();
+        Ruler r = new Ruler();
         Check.same("a new object", Check.map(r), FIRST_MAP);
         Check.same("a new object's ledgers", Check.ledgers(r), "12+0-0 gap 0");
         Check.same("a new object's error", Check.error(r), "0 at -1");
         Check.same("a new object's output", Check.output(r), "");
         Check.same("a new object's changes", r.undoableCount(), 0);
-        Check.refuses("undo of a new object", r, Check.STATE, r::undo);
-        Check.refuses("restoreSnapshot of a new object", r, Check.STATE, r::restoreSnapshot);
-        Check.refuses("a new object's buffer", r, Check.ARGUMENT, () -> r.loadMap(1));
+        Check.refuses("undo of a new object", r, Check.STATE, x -> x.undo());
+        Check.refuses("restoreSnapshot of a new object", r, Check.STATE, x -> x.restoreSnapshot());
+        Check.refuses("a new object's buffer", r, Check.ARGUMENT, x -> x.loadMap(1));
         Check.same("the first append", r.appendText(0, 0, 0, 0, 0), 20);
     }
 
     private static void appendText() {
-        CoastlineRuler r = new CoastlineRuler();
+        Ruler r = new Ruler();
         // "map king;shore 1 2,3", the most significant byte first
         Check.same("appendText", r.appendText(0x6d617020, 0x6b696e67, 0x3b73686f, 0x72652031,
                 0x20322c33), 20);
@@ -44,21 +44,21 @@ public final class MapTest {
         }
         Check.same("appendText 36", r.appendText(0x20202020, 0, 0, 0, 0), -1);
         Check.same("appendText 37", r.appendText(0, 0, 0, 0, 0), -1);
-        Check.refuses("loadMap of 701 bytes", r, Check.ARGUMENT, () -> r.loadMap(701));
+        Check.refuses("loadMap of 701 bytes", r, Check.ARGUMENT, x -> x.loadMap(701));
         Check.same("loadMap of 700 bytes", r.loadMap(700), -1);
         Check.same("its error", Check.error(r), "1 at 0");
         Check.same("appendText after it", r.appendText(0, 0, 0, 0, 0), 20);
     }
 
     private static void loadMap() {
-        CoastlineRuler r = new CoastlineRuler();
+        Ruler r = new Ruler();
         r.reverse(0);
         r.saveSnapshot();
         Check.same("an empty map", Check.load(r, "map king;"), 0);
         Check.same("it", Check.map(r), "map king;");
         Check.same("its ledgers", Check.ledgers(r), "0+0-0 gap 0");
-        Check.refuses("undo after loadMap", r, Check.STATE, r::undo);
-        Check.refuses("restoreSnapshot after loadMap", r, Check.STATE, r::restoreSnapshot);
+        Check.refuses("undo after loadMap", r, Check.STATE, x -> x.undo());
+        Check.refuses("restoreSnapshot after loadMap", r, Check.STATE, x -> x.restoreSnapshot());
 
         r.setKingMetric(false);
         r.saveSnapshot();
@@ -69,15 +69,15 @@ public final class MapTest {
         Check.same("the snapshot after it", r.restoreSnapshot(), 0);
         Check.same("the buffer after it", r.appendText(0, 0, 0, 0, 0), 20);
 
-        Check.refuses("loadMap(-1)", r, Check.ARGUMENT, () -> r.loadMap(-1));
-        Check.refuses("loadMap(21)", r, Check.ARGUMENT, () -> r.loadMap(21));
-        Check.refuses("loadMap(2^31-1)", r, Check.ARGUMENT, () -> r.loadMap(Integer.MAX_VALUE));
+        Check.refuses("loadMap(-1)", r, Check.ARGUMENT, x -> x.loadMap(-1));
+        Check.refuses("loadMap(21)", r, Check.ARGUMENT, x -> x.loadMap(21));
+        Check.refuses("loadMap(2^31-1)", r, Check.ARGUMENT, x -> x.loadMap(Integer.MAX_VALUE));
         Check.same("the buffer after them", r.appendText(0, 0, 0, 0, 0), 40);
         Check.same("loadMap(0)", r.loadMap(0), -1);
         Check.same("its error", Check.error(r), "1 at 0");
         Check.same("the buffer after it", r.appendText(0, 0, 0, 0, 0), 20);
 
-        CoastlineRuler six = Check.with("map taxicab;shore 0 0,0 0;island-1000-1000,1000 1000,0 0;"
+        Ruler six = Check.with("map taxicab;shore 0 0,0 0;island-1000-1000,1000 1000,0 0;"
                 + Check.row("shore", 33) + ";" + Check.row("island", 33)
                 + ";shore 1 1,2 2;shore 3 3,4 4;");
         Check.same("six coastlines", six.coastCount(), 6);
@@ -91,7 +91,7 @@ public final class MapTest {
     }
 
     private static void mapError(String map, String due) {
-        CoastlineRuler r = new CoastlineRuler();
+        Ruler r = new Ruler();
         Check.same("loadMap of " + map, Check.load(r, map), -1);
         Check.same("the error of " + map, Check.error(r), due);
         Check.same("the map after " + map, Check.map(r), FIRST_MAP);
@@ -158,13 +158,13 @@ public final class MapTest {
     }
 
     private static void errorsOfOtherCalls() {
-        CoastlineRuler r = new CoastlineRuler();
+        Ruler r = new Ruler();
         Check.run(r, "fold 0 51;");
         Check.same("a script's error", Check.error(r), "2 at 7");
-        Check.refuses("runScript(1)", r, Check.ARGUMENT, () -> r.runScript(1));
+        Check.refuses("runScript(1)", r, Check.ARGUMENT, x -> x.runScript(1));
         Check.add(r, "shore 0 0, ");
         Check.same("a coast's error", Check.error(r), "1 at 11");
-        Check.refuses("addCoast(1)", r, Check.ARGUMENT, () -> r.addCoast(1));
+        Check.refuses("addCoast(1)", r, Check.ARGUMENT, x -> x.addCoast(1));
         r.reverse(0);
         r.undo();
         Check.same("the error stays", Check.error(r), "1 at 11");
@@ -180,7 +180,7 @@ public final class MapTest {
     }
 
     private static void coastCount() {
-        CoastlineRuler r = new CoastlineRuler();
+        Ruler r = new Ruler();
         for (int i = 3; i < 6; i++) {
             Check.same("coastCount", r.coastCount(), i);
             Check.add(r, "shore 0 0,0 0");
@@ -199,7 +199,7 @@ public final class MapTest {
     }
 
     private static void pointQueries() {
-        CoastlineRuler r = new CoastlineRuler();
+        Ruler r = new Ruler();
         Check.same("isIsland", r.isIsland(0), false);
         Check.same("isIsland", r.isIsland(2), true);
         Check.same("pointCount", r.pointCount(0), 5);
@@ -207,28 +207,28 @@ public final class MapTest {
         Check.same("pointX", r.pointX(0, 4), 20);
         Check.same("pointY", r.pointY(2, 2), 15);
         for (int coast : new int[] {-1, 3, 6, Integer.MIN_VALUE, Integer.MAX_VALUE}) {
-            Check.refuses("isIsland", r, Check.INDEX, () -> r.isIsland(coast));
-            Check.refuses("pointCount", r, Check.INDEX, () -> r.pointCount(coast));
-            Check.refuses("pointX", r, Check.INDEX, () -> r.pointX(coast, 0));
-            Check.refuses("pointY", r, Check.INDEX, () -> r.pointY(coast, 0));
-            Check.refuses("pointDistance", r, Check.INDEX, () -> r.pointDistance(coast, 0, 0));
+            Check.refuses("isIsland", r, Check.INDEX, x -> x.isIsland(coast));
+            Check.refuses("pointCount", r, Check.INDEX, x -> x.pointCount(coast));
+            Check.refuses("pointX", r, Check.INDEX, x -> x.pointX(coast, 0));
+            Check.refuses("pointY", r, Check.INDEX, x -> x.pointY(coast, 0));
+            Check.refuses("pointDistance", r, Check.INDEX, x -> x.pointDistance(coast, 0, 0));
         }
         for (int point : new int[] {-1, 5, 129, Integer.MIN_VALUE, Integer.MAX_VALUE}) {
-            Check.refuses("pointX", r, Check.INDEX, () -> r.pointX(0, point));
-            Check.refuses("pointY", r, Check.INDEX, () -> r.pointY(0, point));
-            Check.refuses("pointDistance", r, Check.INDEX, () -> r.pointDistance(0, point, 0));
-            Check.refuses("pointDistance", r, Check.INDEX, () -> r.pointDistance(0, 0, point));
+            Check.refuses("pointX", r, Check.INDEX, x -> x.pointX(0, point));
+            Check.refuses("pointY", r, Check.INDEX, x -> x.pointY(0, point));
+            Check.refuses("pointDistance", r, Check.INDEX, x -> x.pointDistance(0, point, 0));
+            Check.refuses("pointDistance", r, Check.INDEX, x -> x.pointDistance(0, 0, point));
         }
         Check.grow(r, 0, 129);
         Check.same("the most points", r.pointCount(0), 129);
         Check.same("the last point", r.pointX(0, 128), 128);
-        Check.refuses("pointX(0, 129)", r, Check.INDEX, () -> r.pointX(0, 129));
+        Check.refuses("pointX(0, 129)", r, Check.INDEX, x -> x.pointX(0, 129));
         r.removeCoast(2);
-        Check.refuses("a removed coastline", r, Check.INDEX, () -> r.pointCount(2));
+        Check.refuses("a removed coastline", r, Check.INDEX, x -> x.pointCount(2));
     }
 
     private static void pointDistance() {
-        CoastlineRuler r = Check.with("map taxicab;shore -1000 1000,1000 -1000,999 0;");
+        Ruler r = Check.with("map taxicab;shore -1000 1000,1000 -1000,999 0;");
         Check.same("taxicab", r.pointDistance(0, 0, 1), 4000);
         Check.same("taxicab", r.pointDistance(0, 2, 0), 2999);
         Check.same("the same point", r.pointDistance(0, 2, 2), 0);
@@ -239,7 +239,7 @@ public final class MapTest {
     }
 
     private static void nearestPoint() {
-        CoastlineRuler r = Check.with("map taxicab;shore 0 0,6 6,9 0,6 6;");
+        Ruler r = Check.with("map taxicab;shore 0 0,6 6,9 0,6 6;");
         Check.same("taxicab", r.nearestPoint(0, 1, 8), 1);
         Check.same("taxicab", r.nearestPoint(0, 1, 7), 1);
         Check.same("equally near", r.nearestPoint(0, 1, 5), 0);
@@ -249,11 +249,11 @@ public final class MapTest {
         Check.same("king", r.nearestPoint(0, 1, 5), 0);
         Check.same("king", r.nearestPoint(0, 6, 3), 1);
         Check.same("king", r.nearestPoint(0, 1, 6), 1);
-        Check.refuses("nearestPoint", r, Check.INDEX, () -> r.nearestPoint(1, 1001, 0));
-        Check.refuses("nearestPoint", r, Check.INDEX, () -> r.nearestPoint(-1, 0, 0));
-        Check.refuses("nearestPoint", r, Check.ARGUMENT, () -> r.nearestPoint(0, 1001, 0));
-        Check.refuses("nearestPoint", r, Check.ARGUMENT, () -> r.nearestPoint(0, -1001, 0));
-        Check.refuses("nearestPoint", r, Check.ARGUMENT, () -> r.nearestPoint(0, 0, 1001));
-        Check.refuses("nearestPoint", r, Check.ARGUMENT, () -> r.nearestPoint(0, 0, -1001));
+        Check.refuses("nearestPoint", r, Check.INDEX, x -> x.nearestPoint(1, 1001, 0));
+        Check.refuses("nearestPoint", r, Check.INDEX, x -> x.nearestPoint(-1, 0, 0));
+        Check.refuses("nearestPoint", r, Check.ARGUMENT, x -> x.nearestPoint(0, 1001, 0));
+        Check.refuses("nearestPoint", r, Check.ARGUMENT, x -> x.nearestPoint(0, -1001, 0));
+        Check.refuses("nearestPoint", r, Check.ARGUMENT, x -> x.nearestPoint(0, 0, 1001));
+        Check.refuses("nearestPoint", r, Check.ARGUMENT, x -> x.nearestPoint(0, 0, -1001));
     }
 }

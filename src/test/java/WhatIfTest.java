@@ -12,7 +12,7 @@ public final class WhatIfTest {
     }
 
     private static void foldObstacle() {
-        CoastlineRuler r = Check.with("map taxicab;shore 0 0,1 0;island 0 0,1 0,2 0;"
+        Ruler r = Check.with("map taxicab;shore 0 0,1 0;island 0 0,1 0,2 0;"
                 + "shore 0 990,10 990,20 990;shore 995 0,995 9;island 0 -951,9 -951,5 -900;");
         Check.same("a shore of 2", r.foldObstacle(0, 50), 0);
         Check.grow(r, 0, 65);
@@ -33,14 +33,14 @@ public final class WhatIfTest {
         Check.same("down to -1000", r.foldObstacle(4, -49), 0);
         r.shift(0, 0, 1000);
         Check.same("1 takes precedence", r.foldObstacle(0, 50), 1);
-        Check.refuses("height 51", r, Check.ARGUMENT, () -> r.foldObstacle(0, 51));
-        Check.refuses("height -51", r, Check.ARGUMENT, () -> r.foldObstacle(0, -51));
-        Check.refuses("coast 5", r, Check.INDEX, () -> r.foldObstacle(5, 51));
-        Check.refuses("coast -1", r, Check.INDEX, () -> r.foldObstacle(-1, 0));
+        Check.refuses("height 51", r, Check.ARGUMENT, x -> x.foldObstacle(0, 51));
+        Check.refuses("height -51", r, Check.ARGUMENT, x -> x.foldObstacle(0, -51));
+        Check.refuses("coast 5", r, Check.INDEX, x -> x.foldObstacle(5, 51));
+        Check.refuses("coast -1", r, Check.INDEX, x -> x.foldObstacle(-1, 0));
     }
 
     private static void lengthAfterFold() {
-        CoastlineRuler r = new CoastlineRuler();
+        Ruler r = new Ruler();
         String before = Check.seen(r);
         Check.same("a shore", r.lengthAfterFold(0, 3, 1), 31);
         Check.same("an island", r.lengthAfterFold(2, 4, 1), 40);
@@ -59,15 +59,15 @@ public final class WhatIfTest {
         Check.same("too many points", r.lengthAfterFold(0, 0, 0), -1);
         r.shift(1, 0, 980);
         Check.same("too far out", r.lengthAfterFold(1, 1, 0), -1);
-        Check.refuses("level 8", r, Check.ARGUMENT, () -> r.lengthAfterFold(0, 0, 8));
-        Check.refuses("level -1", r, Check.ARGUMENT, () -> r.lengthAfterFold(1, 0, -1));
-        Check.refuses("height 51", r, Check.ARGUMENT, () -> r.lengthAfterFold(1, 51, 0));
-        Check.refuses("height -51", r, Check.ARGUMENT, () -> r.lengthAfterFold(1, -51, 0));
-        Check.refuses("coast 3", r, Check.INDEX, () -> r.lengthAfterFold(3, 51, 8));
+        Check.refuses("level 8", r, Check.ARGUMENT, x -> x.lengthAfterFold(0, 0, 8));
+        Check.refuses("level -1", r, Check.ARGUMENT, x -> x.lengthAfterFold(1, 0, -1));
+        Check.refuses("height 51", r, Check.ARGUMENT, x -> x.lengthAfterFold(1, 51, 0));
+        Check.refuses("height -51", r, Check.ARGUMENT, x -> x.lengthAfterFold(1, -51, 0));
+        Check.refuses("coast 3", r, Check.INDEX, x -> x.lengthAfterFold(3, 51, 8));
     }
 
     private static void lengthWithoutPoint() {
-        CoastlineRuler r = new CoastlineRuler();
+        Ruler r = new Ruler();
         Check.same("the first of a shore", r.lengthWithoutPoint(0, 0), 24);
         Check.same("an inner one", r.lengthWithoutPoint(0, 1), 25);
         Check.same("the last of a shore", r.lengthWithoutPoint(0, 4), 23);
@@ -77,16 +77,16 @@ public final class WhatIfTest {
         r.setKingMetric(true);
         Check.same("king", r.lengthWithoutPoint(0, 3), 20);
         Check.same("king", r.lengthWithoutPoint(1, 2), 60);
-        CoastlineRuler small = Check.with("map king;shore 0 0,9 9;shore 0 0,5 5,5 5;");
+        Ruler small = Check.with("map king;shore 0 0,9 9;shore 0 0,5 5,5 5;");
         Check.same("a shore of 2", small.lengthWithoutPoint(0, 1), -1);
         Check.same("a shore of 3", small.lengthWithoutPoint(1, 0), 0);
-        Check.refuses("point 2", small, Check.INDEX, () -> small.lengthWithoutPoint(0, 2));
-        Check.refuses("point -1", small, Check.INDEX, () -> small.lengthWithoutPoint(0, -1));
-        Check.refuses("coast 2", small, Check.INDEX, () -> small.lengthWithoutPoint(2, 0));
+        Check.refuses("point 2", small, Check.INDEX, x -> x.lengthWithoutPoint(0, 2));
+        Check.refuses("point -1", small, Check.INDEX, x -> x.lengthWithoutPoint(0, -1));
+        Check.refuses("coast 2", small, Check.INDEX, x -> x.lengthWithoutPoint(2, 0));
     }
 
     private static void leastImportantPoint() {
-        CoastlineRuler r = Check.with("map taxicab;shore 0 0,9 0,10 0,10 9,0 9;shore 0 0,9 9;"
+        Ruler r = Check.with("map taxicab;shore 0 0,9 0,10 0,10 9,0 9;shore 0 0,9 9;"
                 + "island 0 0,4 0,4 4;island 0 0,4 0,8 0,8 8,0 8;shore 0 0,5 0,6 0;");
         Check.same("of equal ones the first", r.leastImportantPoint(0), 1);
         Check.same("a shore of 2", r.leastImportantPoint(1), -1);
@@ -99,24 +99,24 @@ public final class WhatIfTest {
         Check.same("an end of a shore", r.leastImportantPoint(4), 2);
         Check.same("no length at all",
                 Check.with("map king;shore 1 1,1 1,1 1;").leastImportantPoint(0), 0);
-        Check.refuses("coast 5", r, Check.INDEX, () -> r.leastImportantPoint(5));
+        Check.refuses("coast 5", r, Check.INDEX, x -> x.leastImportantPoint(5));
     }
 
     private static void lengthInOtherMetric() {
-        CoastlineRuler r = new CoastlineRuler();
+        Ruler r = new Ruler();
         Check.same("king", r.lengthInOtherMetric(0, 0), 21);
         Check.same("king", r.lengthInOtherMetric(1, 1), 40);
         Check.same("king", r.lengthInOtherMetric(2, 7), 0);
         Check.same("the metric stays", r.usesKingMetric(), false);
         r.setKingMetric(true);
         Check.same("taxicab", r.lengthInOtherMetric(0, 0), 31);
-        Check.refuses("level 8", r, Check.ARGUMENT, () -> r.lengthInOtherMetric(0, 8));
-        Check.refuses("level -1", r, Check.ARGUMENT, () -> r.lengthInOtherMetric(0, -1));
-        Check.refuses("coast 3", r, Check.INDEX, () -> r.lengthInOtherMetric(3, 8));
+        Check.refuses("level 8", r, Check.ARGUMENT, x -> x.lengthInOtherMetric(0, 8));
+        Check.refuses("level -1", r, Check.ARGUMENT, x -> x.lengthInOtherMetric(0, -1));
+        Check.refuses("coast 3", r, Check.INDEX, x -> x.lengthInOtherMetric(3, 8));
     }
 
     private static void ledgers() {
-        CoastlineRuler r = new CoastlineRuler();
+        Ruler r = new Ruler();
         r.fold(0, 1);
         Check.same("fold of a shore", Check.ledgers(r), "12+4-0 gap 0");
         r.fold(1, 1);
@@ -143,7 +143,7 @@ public final class WhatIfTest {
     }
 
     private static void ledgersOfUndoneChanges() {
-        CoastlineRuler r = new CoastlineRuler();
+        Ruler r = new Ruler();
         r.fold(0, 1);
         r.saveSnapshot();
         r.unfold(0);
