@@ -163,7 +163,7 @@ public final class ChangeEdgesTest {
                 Check.same("point " + i, shore.pointX(0, i), 2 * i);
             }
             Check.refuses("the next point", shore, Check.INDEX,
-                    x -> x.pointX(0, (x.pointCount(0))));
+                    x -> x.pointX(0, x.pointCount(0)));
         }
         Check.same("an island of 129", row("island", 129).unfold(0), 65);
         Check.same("an island of 128", row("island", 128).unfold(0), 64);
@@ -321,17 +321,21 @@ public final class ChangeEdgesTest {
 
     /** "if fewer points would be left than a shore (2) or an island (3) needs". */
     private static void removedAtTheEnds() {
-        Ruler r = Check.with("map king;shore 1 1,2 2,3 3;island 1 1,2 2,3 3,4 4;");
+        Ruler r = Check.with("map king;shore 1 9,2 8,3 7;island 1 6,2 5,3 4,4 3;");
         for (int point : new int[] {-1, 3, 4, Integer.MIN_VALUE, Integer.MAX_VALUE}) {
             Check.refuses("point " + point, r, Check.INDEX, x -> x.removePoint(0, point));
         }
         Ruler first = r.again();
         Check.same("the first", first.removePoint(0, 0) + first.removePoint(1, 0), 5);
-        isNow("without the first", first, 0, "shore 2 2,3 3");
-        isNow("without the first", first, 1, "island 2 2,3 3,4 4");
+        isNow("without the first", first, 0, "shore 2 8,3 7");
+        isNow("without the first", first, 1, "island 2 5,3 4,4 3");
+        Ruler inner = r.again();
+        Check.same("an inner one", inner.removePoint(0, 1) + inner.removePoint(1, 2), 5);
+        isNow("without an inner one", inner, 0, "shore 1 9,3 7");
+        isNow("without an inner one", inner, 1, "island 1 6,2 5,4 3");
         Check.same("the last", r.removePoint(0, 2) + r.removePoint(1, 3), 5);
-        isNow("without the last", r, 0, "shore 1 1,2 2");
-        isNow("without the last", r, 1, "island 1 1,2 2,3 3");
+        isNow("without the last", r, 0, "shore 1 9,2 8");
+        isNow("without the last", r, 1, "island 1 6,2 5,3 4");
         for (int point = 0; point < 2; point++) {
             int gone = point;
             Check.refuses("of a shore of 2", r, Check.STATE, x -> x.removePoint(0, gone));
@@ -399,6 +403,12 @@ public final class ChangeEdgesTest {
             Check.same("the number of points", r.reverse(coast), points[coast]);
             isNow("reversed", r, coast, due[coast]);
         }
+        Ruler many = row("island", 129);
+        for (int i = 0; i < 3; i++) {
+            Check.same("of 129", many.removePoint(0, i * 63), 128 - i);
+        }
+        Check.same("the rest", many.pointX(0, 0) + " " + many.pointX(0, 62) + " "
+                + many.pointX(0, 63) + " " + many.pointX(0, 125), "1 63 65 127");
         Ruler full = row("island", 129);
         Check.same("129 points", full.reverse(0), 129);
         for (int i = 0; i < 129; i++) {

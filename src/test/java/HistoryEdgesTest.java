@@ -30,6 +30,7 @@ public final class HistoryEdgesTest {
         snapshotIsReplaced();
         snapshotHoldsAll();
         restoringClearsTheHistory();
+        restoringLeavesTheRest();
         lastLevelWritten();
         outputIsReplaced();
         noSuchByte();
@@ -412,6 +413,25 @@ public final class HistoryEdgesTest {
         r.shift(0, 3, 3);
         Check.same("one change", r.undo(), 0);
         Check.same("undone", r.pointX(0, 0), 1);
+    }
+
+    /** Texts, their error and the output are no part of a snapshot. */
+    private static void restoringLeavesTheRest() {
+        Ruler r = new Ruler();
+        r.writeLengths(0);
+        Check.run(r, "fold 0 51;");
+        Check.feed(r, "shore 5 6,7 8");
+        r.saveSnapshot();
+        Check.same("the buffer after saving", Check.held(r.again()), 20);
+        Check.same("addCoast", r.addCoast(13), 3);
+        r.writeLengths(1);
+        Check.feed(r, "shore 1 2,3 4" + " ".repeat(27));
+        Check.same("restored", r.restoreSnapshot(), 3);
+        Check.same("the error", Check.error(r), "0 at -1");
+        Check.same("the output", Check.output(r), "80 80");
+        Check.same("the buffer", Check.held(r.again()), 40);
+        Check.same("the buffer", r.addCoast(13), 3);
+        Check.same("the buffer", Check.points(r, 3), "shore 1 2,3 4");
     }
 
     // ---- the output

@@ -33,6 +33,7 @@ public final class MeasureEdgesTest {
         closingSegment();
         positionsOnSegments();
         raysThroughPoints();
+        intersectionsToTheRight();
         containsAtTheLimits();
         enclosesItself();
         smallestOfEqualAreas();
@@ -44,6 +45,7 @@ public final class MeasureEdgesTest {
         lengthsWithoutNeededPoints();
         leastImportantOfEqualOnes();
         otherMetric();
+        allOfAFullCoastline();
         Check.finish();
     }
 
@@ -364,6 +366,7 @@ public final class MeasureEdgesTest {
         Check.same("the closing one", r.longestStick(2, 0), 2);
         Check.same("the last of a level", r.longestStick(2, 1), 0);
         Check.same("none has a length", r.longestStick(3, 0), 0);
+        Check.same("length 1 after 0", king(shore(0, 0, 0, 0, 1, 1)).longestStick(0, 0), 1);
         Check.same("the last one", r.longestStick(4, 0), 2);
         Ruler full = row("shore", 129);
         Check.same("of 128", full.longestStick(0, 0), 0);
@@ -408,10 +411,15 @@ public final class MeasureEdgesTest {
         Check.same("the greater gain", equal.levelOfGreatestGain(0), 2);
         equal.movePoint(0, 4, 4, 0);
         Check.same("the greater gain", equal.levelOfGreatestGain(0), 0);
+        Ruler small = king(shore(0, 0, 0, 0, 1, 1, 1, 1, 1, 0));
+        Check.same("gains", small.lengthGain(0, 0) + " " + small.lengthGain(0, 1), "0 1");
+        Check.same("a gain of 1 after none", small.levelOfGreatestGain(0), 1);
         Ruler last = row("island", 129);
-        for (int i = 1; i < 128; i++) {
+        for (int i = 1; i < 129; i++) {
             last.movePoint(0, i, 0, 0);
         }
+        last.movePoint(0, 128, 9, 9);
+        Check.same("what level 7 finds is no gain", last.levelOfGreatestGain(0), 0);
         last.movePoint(0, 128, 0, 0);
         last.movePoint(0, 64, 0, 1);
         Check.same("level 6", last.levelOfGreatestGain(0), 6);
@@ -621,6 +629,35 @@ public final class MeasureEdgesTest {
         Check.same("at the bottom, outside", r.contains(0, 9, 0), false);
         Check.same("above all", r.contains(0, 10, 11), false);
         Check.same("below all", r.contains(0, 10, -1), false);
+    }
+
+    /** "and the intersection with the ray lies to the right of the position": by a hair too. */
+    private static void intersectionsToTheRight() {
+        for (int width = 1; width <= 9; width++) {
+            for (int height = 1; height <= 9; height++) {
+                Ruler r = taxicab(island(0, 0, width, height, -20, height, -20, 0),
+                        island(0, height, width, 0, -20, 0, -20, height));
+                if (height % 2 == 0) {
+                    r.reverse(0);
+                    r.reverse(1);
+                }
+                for (int x = -1; x <= width + 1; x++) {
+                    for (int y = 0; y <= height; y++) {
+                        // Left of the slope: x * height <= y * width, for the slope from 0 0.
+                        Check.same("below " + width + " " + height + " at " + x + " " + y,
+                                r.contains(0, x, y), x * height <= y * width);
+                        Check.same("above " + width + " " + height + " at " + x + " " + y,
+                                r.contains(1, x, y), x * height <= (height - y) * width);
+                    }
+                }
+            }
+        }
+        // On the slope from corner to corner, x is y and (y + 1000) / 1999.
+        Ruler wide = taxicab(island(-1000, -1000, 1000, 999, -1000, 999));
+        for (int y = -1000; y <= 999; y += y < 990 ? 37 : 1) {
+            Check.same("left of a long slope", wide.contains(0, y, y), true);
+            Check.same("right of a long slope", wide.contains(0, y + 1, y), y == 999);
+        }
     }
 
     /** "x coordinate of the position, -1000 to 1000"; the three exceptions in their order. */
@@ -891,5 +928,47 @@ public final class MeasureEdgesTest {
         Check.same("taxicab", r.lengthInOtherMetric(0, 0), 4000);
         Check.same("taxicab of an island", r.lengthInOtherMetric(1, 0), 14);
         Check.same("king stays", r.lengthAt(0, 0), 2000);
+    }
+
+    /** Each query of a coastline of 129 points, where no row has room behind the last one. */
+    private static void allOfAFullCoastline() {
+        Ruler shore = row("shore", 129);
+        Ruler island = row("island", 129);
+        full(shore, 128, 128, 0);
+        full(island, 129, 256, 128);
+        Check.same("the area", island.doubledArea(0), 0);
+        Check.same("the turn", island.isCounterclockwise(0), false);
+        Check.same("on it", island.contains(0, 77, 0), true);
+        Check.same("beside it", island.contains(0, 77, 1), false);
+        Check.same("another", Check.add(island, Check.row("shore", 33)), 1);
+        Check.same("around another", island.encloses(0, 1), true);
+        Check.same("around another", island.innermostIslandAround(1), 0);
+        Check.same("around another", island.ringDepth(1), 1);
+    }
+
+    private static void full(Ruler r, int sticks, int length, int longest) {
+        Check.same("sticks", r.stickCount(0, 0), sticks);
+        Check.same("the last stick", r.stickStart(0, 0, sticks - 1), sticks - 1);
+        Check.same("its length", r.stickLength(0, 0, sticks - 1), sticks == 129 ? 128 : 1);
+        Check.same("the longest", r.longestStick(0, 0), longest);
+        Check.same("the gain", r.lengthGain(0, 0), 0);
+        Check.same("no gain at all", r.levelOfGreatestGain(0), 0);
+        Check.same("the length", r.coarsestLevelFor(0, length), 7);
+        Check.same("one more", r.coarsestLevelFor(0, length + 1), -1);
+        Check.same("exact", r.coarsestExactLevel(0), 7);
+        Check.same("the total", r.totalLength(0), length);
+        Check.same("the longest coastline", r.longestCoast(0), 0);
+        Check.same("the ratio", r.refinementRatio(0, 0), 1.0);
+        Check.same("the mean", r.meanStickLength(0, 0), (float) length / (float) sticks);
+        Check.same("the other metric", r.lengthInOtherMetric(0, 0), length);
+        Check.same("the nearest", r.nearestPoint(0, 1000, 0), 128);
+        Check.same("the width", r.boxWidth(0), 128);
+        Check.same("the height", r.boxHeight(0), 0);
+        Check.same("the obstacle", r.foldObstacle(0, 50), 1);
+        Check.same("not folded", r.lengthAfterFold(0, 50, 0), -1);
+        Check.same("without the last", r.lengthWithoutPoint(0, 128), length == 128 ? 127 : 254);
+        Check.same("without the first", r.lengthWithoutPoint(0, 0), length == 128 ? 127 : 254);
+        Check.same("the least important", r.leastImportantPoint(0), 1);
+        Check.same("the lengths written", r.writeLengths(0), 31);
     }
 }

@@ -16,6 +16,8 @@ public final class TextEdgesTest {
         everyByteInANumber();
         numbersOfAnyLength();
         spacesAndLineFeeds();
+        wordsLetterByLetter();
+        textsCutWithinATerm();
         everyPrefixOfAMap();
         everyPrefixOfACoast();
         everyPrefixOfAScript();
@@ -202,6 +204,74 @@ public final class TextEdgesTest {
         map("", bad(1, 0));
         map(" \n", bad(1, 2));
         coast("  ", bad(1, 2));
+    }
+
+    /** "A word is a maximal run of the letters": one letter more, less or other is another. */
+    private static void wordsLetterByLetter() {
+        String[] words = {"map", "king", "taxicab", "shore", "island", "fold", "unfold", "move",
+            "insert", "drop", "shift", "reverse", "remove", "metric"};
+        for (String word : words) {
+            for (int i = 0; i < word.length(); i++) {
+                wrongWord(word, word.substring(0, i) + word.substring(i + 1));
+                for (char other : new char[] {'a', 'z', (char) (word.charAt(i) + 1)}) {
+                    wrongWord(word, word.substring(0, i) + other + word.substring(i + 1));
+                    wrongWord(word, word.substring(0, i) + other + word.substring(i));
+                }
+                wrongWord(word, word.substring(0, i) + word.toUpperCase().charAt(i)
+                        + word.substring(i + 1));
+            }
+            wrongWord(word, word + word);
+            wrongWord(word, word + "a");
+            wrongWord(word, word + "z");
+        }
+    }
+
+    /** The other word is not taken where the word is, be it a map's, a metric's, a command's. */
+    private static void wrongWord(String word, String other) {
+        if (other.equals(word) || other.matches("fold|unfold|shore|island")) {
+            return;
+        }
+        if (word.equals("map")) {
+            map(other + " king;", bad(1, 0));
+        } else if (word.equals("king") || word.equals("taxicab")) {
+            map("map " + other + ";", bad(1, 4));
+            script("metric " + other + ";", bad(1, 7));
+        } else {
+            script(other + " 0 0;", bad(1, 0));
+            script("reverse 0;" + other + " 0 0;", bad(1, 10));
+        }
+    }
+
+    /** "Parses the first bytes": a word or a number goes no further than the text. */
+    private static void textsCutWithinATerm() {
+        Ruler r = new Ruler();
+        Check.feed(r, "shore 1 2,3 456");
+        Check.same("a number cut", told(r.addCoast(13), r), good(3));
+        Check.same("a number cut", Check.points(r, 3), "shore 1 2,3 4");
+        Check.feed(r, "shore 1 2,3 4567");
+        Check.same("a number cut", told(r.addCoast(15), r), good(4));
+        Check.same("a number cut", Check.points(r, 4), "shore 1 2,3 456");
+        Check.feed(r, "shore 1 2,3 4567");
+        Check.same("a number not cut", told(r.addCoast(16), r), bad(2, 12));
+        Check.feed(r, "metric king;");
+        Check.same("a word cut", told(r.runScript(10), r), bad(1, 7));
+        Check.feed(r, "map kings;");
+        Check.same("a word cut", told(r.loadMap(8), r), bad(1, 8));
+        // A number, a word and spaces that end with the 700th byte.
+        String zeros = "0".repeat(686);
+        Check.same("700 bytes", Check.feed(r, "shore 1 2,3 " + zeros + "49"), 700);
+        Check.same("a number at the end", told(r.addCoast(700), r), good(5));
+        Check.same("a number at the end", Check.points(r, 5), "shore 1 2,3 49");
+        Check.feed(r, " ".repeat(695) + "shore");
+        Check.same("a word at the end", told(r.runScript(700), r), bad(1, 700));
+        Check.feed(r, " ".repeat(700));
+        Check.same("spaces at the end", told(r.runScript(700), r), good(0));
+        Check.feed(r, "a".repeat(700));
+        Check.same("a word alone", told(r.runScript(700), r), bad(1, 0));
+        Check.feed(r, " ".repeat(699) + "-");
+        Check.same("a sign at the end", told(r.runScript(700), r), bad(1, 699));
+        Check.feed(r, "reverse 0;" + " ".repeat(689) + ";");
+        Check.same("a ; at the end", told(r.runScript(700), r), bad(1, 699));
     }
 
     // ---- the grammars
