@@ -35,6 +35,7 @@ public final class HistoryEdgesTest {
         outputIsReplaced();
         noSuchByte();
         theLastOf512Calls();
+        objectsApart();
         Check.finish();
     }
 
@@ -531,5 +532,45 @@ public final class HistoryEdgesTest {
             Check.same("text " + i, texts.runScript(20), -1);
         }
         Check.same("the error", Check.error(texts), "1 at 20");
+    }
+
+    /** What one of several objects is asked for, and its answer. */
+    private interface Step {
+        Object on(Ruler ruler, int object);
+    }
+
+    /** Each object has a map, a buffer, an error, an output, a past and a snapshot of its own. */
+    private static void objectsApart() {
+        Step[] steps = {(r, i) -> Check.feed(r, "map king;shore 0 " + i + ",9 9;"),
+            (r, i) -> i == 2 ? r.loadMap(24) : r.runScript(9 + i), (r, i) -> Check.error(r),
+            (r, i) -> r.insertPoint(0, 1, i, -i), (r, i) -> r.setKingMetric(i % 2 == 1),
+            (r, i) -> saved(r), (r, i) -> r.writeLengths(0), (r, i) -> Check.output(r),
+            (r, i) -> Check.add(r, "island 0 0,9 " + i + ",5 5" + ";".repeat(i / 2)),
+            (r, i) -> r.lengthAfterFold(0, 5 + i, 0), (r, i) -> r.fold(0, 5 + i),
+            (r, i) -> Check.feed(r, "shore " + i + " 1,2 " + i), (r, i) -> state(r),
+            (r, i) -> i == 3 ? r.undoableCount() : r.undo(), (r, i) -> state(r),
+            (r, i) -> r.addCoast(13), (r, i) -> Check.error(r), (r, i) -> Check.output(r),
+            (r, i) -> r.undoableCount(), (r, i) -> state(r), (r, i) -> r.restoreSnapshot(),
+            (r, i) -> state(r), (r, i) -> r.undoableCount()};
+        String[] among = {"", "", "", ""};
+        Ruler[] rulers = {new Ruler(), new Ruler(), new Ruler(), new Ruler()};
+        for (Step step : steps) {
+            for (int i = 0; i < rulers.length; i++) {
+                among[i] += step.on(rulers[i], i) + "\n";
+            }
+        }
+        for (int i = 0; i < rulers.length; i++) {
+            StringBuilder alone = new StringBuilder();
+            Ruler r = new Ruler();
+            for (Step step : steps) {
+                alone.append(step.on(r, i)).append('\n');
+            }
+            Check.same("object " + i + " among others", among[i], alone.toString());
+        }
+    }
+
+    private static String saved(Ruler ruler) {
+        ruler.saveSnapshot();
+        return state(ruler);
     }
 }

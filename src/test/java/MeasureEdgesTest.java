@@ -45,6 +45,7 @@ public final class MeasureEdgesTest {
         lengthsWithoutNeededPoints();
         leastImportantOfEqualOnes();
         otherMetric();
+        lengthsUnderTheMetric();
         allOfAFullCoastline();
         Check.finish();
     }
@@ -928,6 +929,36 @@ public final class MeasureEdgesTest {
         Check.same("taxicab", r.lengthInOtherMetric(0, 0), 4000);
         Check.same("taxicab of an island", r.lengthInOtherMetric(1, 0), 14);
         Check.same("king stays", r.lengthAt(0, 0), 2000);
+    }
+
+    /** "The map has a metric": every length is measured with it, and none with the other. */
+    private static void lengthsUnderTheMetric() {
+        String[] coasts = {shore(0, 0, 10, 0, 10, 10, 10, 10, 10, 4), shore(0, 0, 12, 12),
+            shore(0, 0, 18, 0)};
+        String sums = "26 20 12 1 1 1 68 0 " + 26.0 / 14.0 + " 13.0";
+        String greater = "16 10 6 0 0 0 46 2 1.6 8.0";
+        Ruler r = taxicab(coasts);
+        Check.same("taxicab", lengths(r), sums);
+        r.setKingMetric(true);
+        Check.same("set to king", lengths(r), greater);
+        r.undo();
+        Check.same("undone", lengths(r), sums);
+        Check.run(r, "metric king;");
+        Check.same("king by a script", lengths(r), greater);
+        Ruler loaded = king(coasts);
+        Check.same("king", lengths(loaded), greater);
+        loaded.saveSnapshot();
+        loaded.setKingMetric(false);
+        Check.same("set to taxicab", lengths(loaded), sums);
+        loaded.restoreSnapshot();
+        Check.same("king by the snapshot", lengths(loaded), greater);
+    }
+
+    private static String lengths(Ruler r) {
+        return r.lengthAt(0, 1) + " " + r.stickLength(0, 1, 0) + " " + r.lengthGain(0, 1) + " "
+                + r.levelOfGreatestGain(0) + " " + r.coarsestLevelFor(0, 20) + " "
+                + r.coarsestExactLevel(0) + " " + r.totalLength(1) + " " + r.longestCoast(1) + " "
+                + r.refinementRatio(0, 1) + " " + r.meanStickLength(0, 1);
     }
 
     /** Each query of a coastline of 129 points, where no row has room behind the last one. */
