@@ -268,8 +268,9 @@ public final class TextEdgesTest {
         Check.same("spaces at the end", told(r.runScript(700), r), good(0));
         Check.feed(r, "a".repeat(700));
         Check.same("a word alone", told(r.runScript(700), r), bad(1, 0));
-        Check.feed(r, " ".repeat(699) + "-");
-        Check.same("a sign at the end", told(r.runScript(700), r), bad(1, 699));
+        for (String last : new String[] {"-", ";", "#", "7", "x", "z", "{", "\u00ff"}) {
+            script(" ".repeat(699) + last, bad(1, 699));
+        }
         Check.feed(r, "reverse 0;" + " ".repeat(689) + ";");
         Check.same("a ; at the end", told(r.runScript(700), r), bad(1, 699));
     }
