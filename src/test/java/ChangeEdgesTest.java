@@ -619,6 +619,12 @@ public final class ChangeEdgesTest {
                 }
                 Check.same(commands[j] + commands[i], Check.map(script) + Check.ledgers(script),
                         Check.map(one) + Check.ledgers(one));
+                Ruler two = new Ruler();
+                two.setKingMetric(j % 2 == 0);
+                int each = Check.run(two, commands[j]) + Check.run(two, commands[i]);
+                Check.same("in two scripts", each, done);
+                Check.same("in two scripts", Check.map(two) + Check.ledgers(two),
+                        Check.map(one) + Check.ledgers(one));
             }
         }
     }

@@ -397,7 +397,10 @@ public final class HistoryEdgesTest {
         full.removeCoast(0);
         full.restoreSnapshot();
         Check.same("129 points", full.pointCount(0), 129);
-        Check.same("the last one", full.pointX(0, 128), 32);
+        Check.same("the last one", full.pointX(0, 128) + " " + full.pointY(0, 128), "32 0");
+        full.movePoint(0, 128, -5, -6);
+        full.undo();
+        Check.same("the last one", full.pointX(0, 128) + " " + full.pointY(0, 128), "32 0");
     }
 
     /** "The undo history is cleared." */
