@@ -18,7 +18,9 @@ public final class HistoryEdgesTest {
         changesOfNothing();
         parseErrorsAreNoChanges();
         otherCallsAreNoChanges();
+        answersOfNothing();
         latestEight();
+        eachAsTheTenth();
         latestEightAfterUndo();
         roundTheRing();
         nothingToUndo();
@@ -33,6 +35,7 @@ public final class HistoryEdgesTest {
         restoringLeavesTheRest();
         lastLevelWritten();
         outputIsReplaced();
+        outputAndSnapshotStay();
         noSuchByte();
         theLastOf512Calls();
         objectsApart();
@@ -145,6 +148,30 @@ public final class HistoryEdgesTest {
         Check.same("nor does it touch the map", state(saved), state(r.again()));
     }
 
+    /** Nor does a call change anything that answers with what there is not. */
+    private static void answersOfNothing() {
+        Check.Call[] calls = {x -> x.lengthAfterFold(0, 1, 0), x -> x.foldObstacle(0, 1),
+            x -> x.lengthAfterFold(1, -2, 7), x -> x.lengthWithoutPoint(0, 1),
+            x -> x.lengthWithoutPoint(1, 2), x -> x.leastImportantPoint(0),
+            x -> x.leastImportantPoint(1), x -> x.coarsestLevelFor(0, 99999),
+            x -> x.innermostIslandAround(1), x -> x.ringDepth(1), x -> x.encloses(1, 1),
+            x -> x.contains(1, 9, 9), x -> x.refinementRatio(1, 1), x -> x.doubledArea(1)};
+        Ruler r = Check.with("map king;shore 0 1000,9 1000;island 0 -999,1 -999,2 -999;");
+        r.shift(0, 1, 0);
+        r.saveSnapshot();
+        r.setKingMetric(false);
+        r.writeLengths(1);
+        Check.run(r, "fold 0 51;");
+        Check.feed(r, "shore 7 8,9 10");
+        for (int i = 0; i < calls.length; i++) {
+            Check.leavesAll("call " + i, r, calls[i]);
+        }
+        Ruler none = Check.with("map king;");
+        none.setKingMetric(false);
+        Check.leavesAll("longestCoast", none, x -> x.longestCoast(0));
+        Check.leavesAll("totalLength", none, x -> x.totalLength(0));
+    }
+
     // ---- undo
 
     /** "The latest 8 changes can be undone, the latest one first." */
@@ -162,6 +189,27 @@ public final class HistoryEdgesTest {
                 Check.same("y", r.pointY(0, 0), i - changes);
             }
             Check.refuses("an older one", r, Check.STATE, x -> x.undo());
+        }
+    }
+
+    /** Every change is one of the latest 8, be it one of none or one of a script. */
+    private static void eachAsTheTenth() {
+        for (Check.Call[] changes : new Check.Call[][] {CHANGES, IDLE}) {
+            for (int i = 0; i < changes.length; i++) {
+                Ruler r = new Ruler();
+                for (int times = 1; times <= 9; times++) {
+                    r.shift(2, 1, 0);
+                }
+                String before = state(r);
+                changes[i].on(r);
+                Check.same("undo of change " + i, r.undo(), 7);
+                Check.same("change " + i + " undone", state(r), before);
+                for (int left = 6; left >= 0; left--) {
+                    Check.same("undo before change " + i, r.undo(), left);
+                }
+                Check.same("two shifts stay", r.pointX(2, 0), 37);
+                Check.refuses("undo", r, Check.STATE, x -> x.undo());
+            }
         }
     }
 
@@ -497,6 +545,29 @@ public final class HistoryEdgesTest {
         written("length 0", zero, 0, "0");
         zero.setKingMetric(false);
         written("length 4000", zero, 1, "4000");
+    }
+
+    /** "The output changes in writeLengths only"; a snapshot stays until a map is loaded. */
+    private static void outputAndSnapshotStay() {
+        Check.Call[] wrong = {x -> Check.run(x, "reverse 0"), x -> Check.add(x, "shore 1 2"),
+            x -> Check.load(x, "map"), x -> x.addCoast(0), x -> x.loadMap(0),
+            x -> x.appendText(0, 0, 0, 0, 0), x -> x.undo()};
+        for (Check.Call[] calls : new Check.Call[][] {CHANGES, IDLE, wrong}) {
+            for (int i = 0; i < calls.length; i++) {
+                Ruler r = new Ruler();
+                r.removePoint(1, 0);
+                r.saveSnapshot();
+                String saved = state(r);
+                r.undo();
+                r.shift(0, 0, 1);
+                r.writeLengths(0);
+                calls[i].on(r);
+                Check.same("the output after call " + i, Check.output(r), "31 25 25");
+                Check.same("the snapshot after call " + i, r.restoreSnapshot(), 3);
+                Check.same("the snapshot after call " + i, state(r), saved);
+                Check.same("the output after it", Check.output(r), "31 25 25");
+            }
+        }
     }
 
     /** "if there is no such byte". */
